@@ -106,6 +106,16 @@ public final class ActsTest {
     CHECK.due("a new reader has no debt", log.debt(0, 0), 0);
     CHECK.due("a new reader owes no value", log.debtOf(0, 1), -1000);
     CHECK.due("a new reader broke none", log.reader(0, 5), 0);
+    log.set(1, 90);
+    log.read(1, 9);
+    log.append(0, 1, 1, 1);
+    log.promise(1, 1);
+    log.read(1, 9);
+    log.leave(1);
+    log.join(0, false);
+    for (int what = 4; what <= 10; what++) {
+      CHECK.due("a new reader: reader(1, " + what + ")", log.reader(1, what), what >= 6 && what <= 8 ? 1 : 0);
+    }
     CHECK.due("a new reader has no promise", log.reader(0, 3), -1);
     CHECK.due("leave the last but one", log.leave(1), 1);
     CHECK.due("leave the last", log.leave(0), 0);
@@ -386,6 +396,11 @@ public final class ActsTest {
     CHECK.due("entries", log.count(10), 2);
     CHECK.due("children", log.branch(0, 6), 0);
     CHECK.dueIndex("drop(1) again", () -> log.drop(1));
+    log.set(1, 1);
+    log.pass(1);
+    CHECK.due("FIRST", log.branch(0, 0), 1);
+    log.fork(0);
+    CHECK.due("drop() behind a cut", log.drop(1), 1);
     CHECK.dueIndex("drop(4)", () -> log.drop(4));
   }
 

@@ -138,6 +138,7 @@ public final class FollowsTest {
     CHECK.dueReal("mean without an entry", log.mean(0), 0.0);
     log.set(0, 9);
     log.append(0, 1, 5, 50);
+    CHECK.dueReal("mean of one", log.mean(0), 50.0);
     log.append(0, 2, 3, -20);
     log.append(0, 2, 1, 6);
     CHECK.due("latest(0, 2)", log.latest(0, 2), 6);
@@ -147,6 +148,8 @@ public final class FollowsTest {
     CHECK.due("cut", log.latest(0, 1), -1000);
     CHECK.dueReal("mean(0) then", log.mean(0), -7.0 / 3.0);
     CHECK.due("latest(0, 9)", log.latest(0, 9), -1000);
+    log.append(0, 0, 1, 44);
+    CHECK.due("latest(0, 0)", log.latest(0, 0), 44);
     CHECK.dueIndex("latest(1, 10)", () -> log.latest(1, 10));
     CHECK.dueArgument("latest(0, 10)", () -> log.latest(0, 10));
     CHECK.dueArgument("latest(0, -1)", () -> log.latest(0, -1));
@@ -204,6 +207,12 @@ public final class FollowsTest {
     CHECK.due("nothing changes: acts", log.account(0), 10);
     CHECK.due("nothing changes: entries", log.count(10), 7);
     CHECK.due("as it comes", log.pass(6), 7);
+    log.append(0, 1, 3, 1);
+    log.promise(0, 1);
+    CHECK.due("those ahead alone: cut", log.ahead(9, 0), 1);
+    CHECK.due("those ahead alone: broken", log.ahead(9, 1), 1);
+    CHECK.due("those ahead alone: debts", log.ahead(9, 2), 2);
+    CHECK.due("the total before", log.ahead(3, 3), 3);
     CHECK.dueArgument("ahead(0, 0)", () -> log.ahead(0, 0));
     CHECK.dueArgument("ahead(100, 0)", () -> log.ahead(100, 0));
     CHECK.dueArgument("ahead(1, -1)", () -> log.ahead(1, -1));
@@ -221,6 +230,8 @@ public final class FollowsTest {
     log.append(0, 1, 1, 1);
     CHECK.due("a debt is there", log.debt(0, 0), 3);
     CHECK.due("for the next time", log.losesIn(0, 9), 4);
+    log.pass(3);
+    CHECK.due("losesIn(0, 1)", log.losesIn(0, 1), 1);
     CHECK.dueIndex("losesIn(2, 0)", () -> log.losesIn(2, 0));
     CHECK.dueArgument("losesIn(0, 0)", () -> log.losesIn(0, 0));
     CHECK.dueArgument("losesIn(0, 201)", () -> log.losesIn(0, 201));
@@ -371,6 +382,11 @@ public final class FollowsTest {
     written(log, 0, "0:10-12 r0=10! r1=10");
     log.set(4, 9);
     log.promise(1, 4);
+    PromiseLog other = new PromiseLog();
+    other.set(1, 1);
+    other.join(0, true);
+    other.append(0, 1, 2, 1);
+    written(other, 0, "0:1-1 r0=1!");
     written(log, 0, "0:10-12 r0=10! r1=10p202");
   }
 }

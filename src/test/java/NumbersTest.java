@@ -60,8 +60,11 @@ public final class NumbersTest {
 
   private static void settingsOutOfRange() {
     PromiseLog log = new PromiseLog();
-    CHECK.dueArgument("set(-1, 1)", () -> log.set(-1, 1));
-    CHECK.dueArgument("set(7, 1)", () -> log.set(7, 1));
+    for (int value = 0; value <= 1; value++) {
+      int asked = value;
+      CHECK.dueArgument("set(-1, " + value + ")", () -> log.set(-1, asked));
+      CHECK.dueArgument("set(7, " + value + ")", () -> log.set(7, asked));
+    }
     log.append(0, 1, 9, 1);
     log.append(0, 1, 9, 1);
     log.set(0, 1);
@@ -177,6 +180,8 @@ public final class NumbersTest {
     log.read(0, 1);
     CHECK.due("entry(0, 2, 4) behind the next", log.entry(0, 2, 4), 1);
     CHECK.dueIndex("entry(0, 0, 0), which was cut", () -> log.entry(0, 0, 0));
+    log.append(0, 9, 1, 1);
+    log.undo();
     CHECK.dueIndex("entry(0, 3, 0), which is not yet", () -> log.entry(0, 3, 0));
     CHECK.dueIndex("entry(0, -1, 9)", () -> log.entry(0, -1, 9));
     CHECK.dueIndex("entry(1, 1, 0)", () -> log.entry(1, 1, 0));
@@ -245,6 +250,17 @@ public final class NumbersTest {
     CHECK.due("one more", log.debt(0, 0), 4);
     CHECK.due("debtOf(0, 2) then", log.debtOf(0, 2), 1);
     log.read(0, 1);
+    log.set(1, 1);
+    log.append(0, 0, 1, 33);
+    log.append(0, 0, 2, 34);
+    CHECK.due("debtOf(0, 0)", log.debtOf(0, 0), 34);
+    log.read(0, 1);
+    CHECK.due("debtOf(0, 0) behind a reading", log.debtOf(0, 0), -1000);
+    log.append(0, 5, 2, 35);
+    CHECK.due("a debt of one", log.debt(0, 0), 1);
+    CHECK.due("a summary of one", log.read(0, 3), 1);
+    CHECK.due("a summary of one", log.item(0, 0), 1);
+    CHECK.due("a summary of one", log.item(0, 3), 35);
     int[] without = {0, 0, 0, -1000, -1000, -1, -1};
     for (int what = 0; what < without.length; what++) {
       CHECK.due("without a debt: debt(0, " + what + ")", log.debt(0, what), without[what]);

@@ -127,6 +127,13 @@ public final class ScriptTest {
     error("Join 0;", 1, 0);
     error("joins 0;", 1, 0);
     error("joi 0;", 1, 0);
+    error("joinz 0;", 1, 0);
+    error("joina 0;", 1, 0);
+    error("zoin 0;", 1, 0);
+    error("join 0 {;", 1, 7);
+    error("join 0 `;", 1, 7);
+    error("join 0 :;", 1, 7);
+    error("join 0 /;", 1, 7);
     error("end;", 1, 0);
     error("0;", 1, 0);
     error(";", 1, 0);

@@ -6,6 +6,8 @@ public final class UndoTest {
     eachAct();
     depth();
     refusals();
+    readings();
+    branches();
     saved();
     savedTwice();
     CHECK.end();
@@ -150,6 +152,56 @@ public final class UndoTest {
     CHECK.due("the reading is undone", log.reader(0, 9), 0);
     log.read(0, 1);
     CHECK.due("read again", log.reader(0, 9), 1);
+  }
+
+  private static void readings() {
+    PromiseLog log = new PromiseLog();
+    log.set(1, 1);
+    log.join(0, false);
+    log.append(0, 1, 5, 1);
+    log.append(0, 1, 1, 2);
+    log.promise(0, 9);
+    log.pass(2);
+    String due = picture(log);
+    log.read(0, 9);
+    String read = picture(log);
+    log.pass(1);
+    log.undo();
+    same("behind a reading", picture(log), read);
+    log.undo();
+    same("ahead of a reading", picture(log), due);
+    log.save(1);
+    log.read(0, 9);
+    log.save(0);
+    log.restore(1);
+    same("restore(1)", picture(log), due);
+    log.restore(0);
+    same("restore(0)", picture(log), read);
+  }
+
+  /** A branch with the same number, but another parent. */
+  private static void branches() {
+    PromiseLog log = new PromiseLog();
+    log.append(0, 1, 1, 1);
+    log.fork(0);
+    log.append(1, 1, 1, 2);
+    log.fork(1);
+    String due = picture(log);
+    log.save(0);
+    log.drop(2);
+    log.append(0, 1, 1, 3);
+    log.append(0, 1, 1, 4);
+    log.fork(0);
+    CHECK.due("FORK", log.branch(2, 4), 3);
+    for (int n = 0; n < 4; n++) {
+      log.undo();
+    }
+    same("undo of a branch", picture(log), due);
+    log.drop(2);
+    log.append(0, 1, 1, 3);
+    log.fork(0);
+    log.restore(0);
+    same("restore of a branch", picture(log), due);
   }
 
   private static void saved() {
