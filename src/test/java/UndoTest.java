@@ -13,49 +13,6 @@ public final class UndoTest {
     CHECK.end();
   }
 
-  /** Everything that an undo brings back. */
-  static String picture(PromiseLog log) {
-    StringBuilder text = new StringBuilder();
-    for (int what = 7; what <= 15; what++) {
-      text.append(log.count(what)).append(' ');
-    }
-    for (int branch = 0; branch < 4; branch++) {
-      int end = 0;
-      try {
-        end = log.branch(branch, 1);
-      } catch (IndexOutOfBoundsException e) {
-        continue;
-      }
-      text.append("\nbranch ").append(branch);
-      for (int what = 0; what < 8; what++) {
-        text.append(' ').append(log.branch(branch, what));
-      }
-      for (int at = log.branch(branch, 0); at < end; at++) {
-        for (int what = 0; what < 5; what++) {
-          text.append(what == 0 ? " | " : " ").append(log.entry(branch, at, what));
-        }
-      }
-    }
-    for (int reader = 0; reader < 6; reader++) {
-      try {
-        log.reader(reader, 0);
-      } catch (IndexOutOfBoundsException e) {
-        continue;
-      }
-      text.append("\nreader ").append(reader);
-      for (int what = 0; what <= 10; what++) {
-        text.append(' ').append(log.reader(reader, what));
-      }
-      for (int what = 0; what < 7; what++) {
-        text.append(' ').append(log.debt(reader, what));
-      }
-      for (int key = 0; key < 10; key++) {
-        text.append(' ').append(log.debtOf(reader, key));
-      }
-    }
-    return text.toString();
-  }
-
   private static PromiseLog full() {
     PromiseLog log = new PromiseLog();
     log.set(0, 12);
@@ -84,14 +41,14 @@ public final class UndoTest {
     CHECK.due(what + " is done", act >= 0 ? 1 : 0, 1);
     CHECK.due(what + ": count(16)", log.count(16), 8);
     CHECK.due(what + ": undo()", log.undo(), 7);
-    same(what, picture(log), due);
+    same(what, Picture.kept(log), due);
   }
 
   private static void eachAct() {
     PromiseLog log = full();
-    String due = picture(log);
+    String due = Picture.kept(log);
     undone("append", log, due, log.append(0, 9, 9, 9));
-    due = picture(full());
+    due = Picture.kept(full());
     for (int act = 0; act < 10; act++) {
       PromiseLog other = full();
       int answer = doAct(other, act);
@@ -162,21 +119,21 @@ public final class UndoTest {
     log.append(0, 1, 1, 2);
     log.promise(0, 9);
     log.pass(2);
-    String due = picture(log);
+    String due = Picture.kept(log);
     log.read(0, 9);
-    String read = picture(log);
+    String read = Picture.kept(log);
     log.pass(1);
     log.undo();
-    same("behind a reading", picture(log), read);
+    same("behind a reading", Picture.kept(log), read);
     log.undo();
-    same("ahead of a reading", picture(log), due);
+    same("ahead of a reading", Picture.kept(log), due);
     log.save(1);
     log.read(0, 9);
     log.save(0);
     log.restore(1);
-    same("restore(1)", picture(log), due);
+    same("restore(1)", Picture.kept(log), due);
     log.restore(0);
-    same("restore(0)", picture(log), read);
+    same("restore(0)", Picture.kept(log), read);
   }
 
   /** A branch with the same number, but another parent. */
@@ -186,7 +143,7 @@ public final class UndoTest {
     log.fork(0);
     log.append(1, 1, 1, 2);
     log.fork(1);
-    String due = picture(log);
+    String due = Picture.kept(log);
     log.save(0);
     log.drop(2);
     log.append(0, 1, 1, 3);
@@ -196,17 +153,17 @@ public final class UndoTest {
     for (int n = 0; n < 4; n++) {
       log.undo();
     }
-    same("undo of a branch", picture(log), due);
+    same("undo of a branch", Picture.kept(log), due);
     log.drop(2);
     log.append(0, 1, 1, 3);
     log.fork(0);
     log.restore(0);
-    same("restore of a branch", picture(log), due);
+    same("restore of a branch", Picture.kept(log), due);
   }
 
   private static void saved() {
     PromiseLog log = full();
-    String due = picture(log);
+    String due = Picture.kept(log);
     int acts = log.account(0);
     log.save(0);
     CHECK.due("save() is no act", log.account(0), acts);
@@ -215,7 +172,7 @@ public final class UndoTest {
     log.set(0, 99);
     log.append(1, 1, 9, 9);
     log.restore(0);
-    same("restore(0)", picture(log), due);
+    same("restore(0)", Picture.kept(log), due);
     CHECK.due("settings stay", log.count(0), 99);
     CHECK.due("no act can be undone", log.count(16), 0);
     CHECK.due("undo()", log.undo(), -1);
@@ -223,12 +180,12 @@ public final class UndoTest {
     log.leave(0);
     log.merge(1);
     log.restore(0);
-    same("it stays saved", picture(log), due);
+    same("it stays saved", Picture.kept(log), due);
     log.pass(1);
     log.undo();
     log.undo();
     log.restore(0);
-    same("undo leaves it", picture(log), due);
+    same("undo leaves it", Picture.kept(log), due);
     CHECK.dueArgument("save(2)", () -> log.save(2));
     CHECK.dueArgument("save(-1)", () -> log.save(-1));
     CHECK.dueArgument("restore(2)", () -> log.restore(2));
