@@ -9,7 +9,7 @@ import java.util.regex.Matcher;
 import java.util.regex.Pattern;
 
 /**
- * One test of src/test/edges: the sentence of the document that it is for, and lines of calls on a new object
+ * One test of src/test/edges: the sentences of the document that it is for, and lines of calls on a new object
  * (README.md tells their form). PromiseLog and Model must both give the answers that are due.
  */
 final class Edge {
@@ -27,9 +27,11 @@ final class Edge {
       "read", Set.of(Picture.KEPT, Picture.UNDOABLE, Picture.ACCOUNTS, Picture.DELIVERY));
   private static final Set<String> CHANGES_OF_ACTS = Set.of(Picture.KEPT, Picture.UNDOABLE, Picture.ACCOUNTS);
 
+  /** A heading of the document, and words that stand under it. */
+  record Quote(String section, String text) {}
+
   final String place;
-  final String section;
-  final String quote;
+  final List<Quote> quotes = new ArrayList<>();
   private final List<String> lines = new ArrayList<>();
   private final Check check;
   private final PromiseLog log = new PromiseLog();
@@ -37,11 +39,17 @@ final class Edge {
   private final Map<String, String> remembered = new HashMap<>();
   private int textLength;
 
-  Edge(Check check, String place, String section, String quote) {
+  Edge(Check check, String place) {
     this.check = check;
     this.place = place;
-    this.section = section;
-    this.quote = quote;
+  }
+
+  void quote(String section, String text) {
+    quotes.add(new Quote(section, text));
+  }
+
+  boolean hasLines() {
+    return !lines.isEmpty();
   }
 
   void add(String line) {
@@ -55,12 +63,12 @@ final class Edge {
       runLine(line);
     }
     if (!hasDue) {
-      fault(quote, "nothing is due");
+      fault("no line", "nothing is due");
     }
   }
 
   private void fault(String line, String text) {
-    check.say(place + " (" + section + "), " + line + ": " + text);
+    check.say(place + " (" + quotes.get(0).section + "), " + line + ": " + text);
   }
 
   private void runLine(String line) {

@@ -2,21 +2,22 @@ import java.io.IOException;
 import java.nio.file.Files;
 import java.nio.file.Path;
 import java.util.ArrayList;
-import java.util.HashMap;
-import java.util.HashSet;
 import java.util.List;
-import java.util.Map;
-import java.util.Set;
+import java.util.regex.Matcher;
+import java.util.regex.Pattern;
 import java.util.stream.Stream;
 
 /**
- * The sentences of the document that name a boundary, each with tests of its own in src/test/edges. Each test quotes
- * its sentence, and the document is asked whether it says so, lest a test outlives its sentence.
+ * The sentences of the document, each with tests of its own in src/test/edges. Each test quotes what it is for, and
+ * the document is asked whether it says so, lest a test outlives its sentence or a sentence is without a test.
  */
 public final class EdgesTest {
   private static final Check CHECK = new Check();
   private static final Path EDGES = Path.of("src/test/edges");
-  private static final Path DOCUMENT = Path.of("../shared/DOC.md");
+  // FaceTest asks for the signatures and for what stands ahead of the calls.
+  private static final Pattern SIGNATURE = Pattern.compile("(?:\\w+ )?\\w+\\([^)]*\\)(?: throws [\\w, ]+)?: ");
+  private static final Pattern NO_SENTENCE =
+      Pattern.compile("## .*|[A-Z ]*|text|Ahead of the calls .*|- \\w+: a (branch|reader)");
 
   public static void main(String[] args) throws IOException {
     List<Edge> edges = new ArrayList<>();
@@ -28,8 +29,9 @@ public final class EdgesTest {
     for (Edge edge : edges) {
       edge.run();
     }
-    if (Files.exists(DOCUMENT)) {
-      checkQuotes(edges);
+    Document document = new Document();
+    if (document.isThere()) {
+      checkQuotes(document, edges);
     }
     System.out.println(edges.size() + " tests of edges");
     CHECK.end();
@@ -42,10 +44,12 @@ public final class EdgesTest {
       number++;
       String plain = line.strip();
       if (plain.startsWith("# ")) {
+        if (edge == null || edge.hasLines()) {
+          edge = new Edge(CHECK, file.getFileName() + ":" + number);
+          edges.add(edge);
+        }
         int bar = plain.indexOf(" | ");
-        String place = file.getFileName() + ":" + number;
-        edge = new Edge(CHECK, place, plain.substring(2, bar), plain.substring(bar + 3));
-        edges.add(edge);
+        edge.quote(plain.substring(2, bar), plain.substring(bar + 3));
       } else if (!plain.isEmpty() && !plain.startsWith("//")) {
         edge.add(plain);
       }
@@ -54,48 +58,59 @@ public final class EdgesTest {
 
   // ---- the document
 
-  private static void checkQuotes(List<Edge> edges) throws IOException {
-    Map<String, String> sections = sections();
-    Set<String> quoted = new HashSet<>();
+  private static void checkQuotes(Document document, List<Edge> edges) {
     for (Edge edge : edges) {
-      quoted.add(edge.section + " | " + edge.quote);
-      String section = sections.get(edge.section);
-      if (section == null || !section.contains(edge.quote)) {
-        CHECK.say(edge.place + ": the document doesn't say under " + edge.section + ": " + edge.quote);
+      for (Edge.Quote quote : edge.quotes) {
+        if (!document.section(quote.section()).contains(quote.text())) {
+          CHECK.say(edge.place + ": the document doesn't say under " + quote.section() + ": " + quote.text());
+        }
       }
     }
-    for (String section : sections.keySet()) {
-      if (section.startsWith("Promise ")) {
-        checkQuoted(section, sections.get(section), quoted);
+    for (String name : document.names()) {
+      if (name.equals("Terms") || name.startsWith("Promise ")) {
+        checkQuoted(name, document.section(name), edges);
       }
     }
   }
 
-  /** Each promise has a test, and each exception that it names, and the range of each parameter. */
-  private static void checkQuoted(String section, String text, Set<String> quoted) {
-    if (quoted.stream().noneMatch(title -> title.startsWith(section + " | "))) {
-      CHECK.say(section + " has no test");
+  /** Every word that says what is due is quoted by a test. */
+  private static void checkQuoted(String name, String text, List<Edge> edges) {
+    boolean[] isQuoted = new boolean[text.length()];
+    for (Edge edge : edges) {
+      for (Edge.Quote quote : edge.quotes) {
+        if (quote.section().equals(name)) {
+          mark(text, quote.text(), isQuoted);
+        }
+      }
     }
+    int start = 0;
     for (String line : text.split("\n")) {
-      boolean isRange = line.startsWith("- ") && line.matches(".*\\d.*");
-      String due = section + " | " + (isRange ? line.substring(2) : line);
-      if ((isRange || line.startsWith("Throws ")) && quoted.stream().noneMatch(t -> due.startsWith(t))) {
-        CHECK.say("no test quotes " + due);
+      Matcher signature = SIGNATURE.matcher(line);
+      int from = signature.lookingAt() ? signature.end() : 0;
+      if (!NO_SENTENCE.matcher(line.substring(from)).matches()) {
+        checkLine(name, line, from, start, isQuoted);
+      }
+      start += line.length() + 1;
+    }
+  }
+
+  private static void mark(String text, String quote, boolean[] isQuoted) {
+    for (int at = text.indexOf(quote); at >= 0; at = text.indexOf(quote, at + 1)) {
+      for (int index = at; index < at + quote.length(); index++) {
+        isQuoted[index] = true;
       }
     }
   }
 
-  /** What stands under each heading, without back quotes, line by line. */
-  private static Map<String, String> sections() throws IOException {
-    Map<String, String> sections = new HashMap<>();
-    String name = "";
-    for (String line : Files.readAllLines(DOCUMENT)) {
-      if (line.startsWith("## ")) {
-        int colon = line.indexOf(':');
-        name = line.substring(3, colon < 0 ? line.length() : colon);
-      }
-      sections.merge(name, line.replace("`", "").strip(), (before, more) -> before + "\n" + more);
+  private static void checkLine(String name, String line, int from, int start, boolean[] isQuoted) {
+    StringBuilder missing = new StringBuilder();
+    for (int index = from; index < line.length(); index++) {
+      missing.append(isQuoted[start + index] ? '\n' : line.charAt(index));
     }
-    return sections;
+    for (String words : missing.toString().split("\n+")) {
+      if (words.matches(".*[A-Za-z].*")) {
+        CHECK.say("no test quotes what stands under " + name + ": " + words.strip());
+      }
+    }
   }
 }

@@ -8,10 +8,14 @@ import java.util.Arrays;
 import java.util.List;
 import java.util.Set;
 import java.util.TreeSet;
+import java.util.regex.Matcher;
+import java.util.regex.Pattern;
 
 /** The class's face is the one of the document, and the file keeps to the rules that a text can show. */
 public final class FaceTest {
   private static final Check CHECK = new Check();
+  private static final Pattern HEADING = Pattern.compile("Ahead of the calls (.*) the interface says: (---- .*)\\.");
+  private static final Pattern NAME = Pattern.compile("public \\w+ (\\w+)\\(");
   private static final String[] FACE = {
     "int appendText(int) IllegalStateException",
     "int truncateText(int) IllegalArgumentException",
@@ -58,6 +62,7 @@ public final class FaceTest {
     face();
     members();
     source();
+    document();
     CHECK.end();
   }
 
@@ -143,5 +148,54 @@ public final class FaceTest {
       }
     }
     CHECK.due("at most twelve classes", classes <= 12 ? 1 : 0, 1);
+  }
+
+  // ---- the document
+
+  /** Each line of the document's face stands in the class, with the names of its parameters, in the same order. */
+  private static void document() throws IOException {
+    Document document = new Document();
+    if (!document.isThere()) {
+      return;
+    }
+    String source = Files.readString(Path.of("src/main/java/PromiseLog.java")).replaceAll("\\s+", " ");
+    int at = 0;
+    int lines = 0;
+    for (String line : document.section("The public face").split("\n")) {
+      if (line.startsWith("public ")) {
+        boolean isDone = line.contains("=") || line.endsWith("{");
+        String due = isDone ? line : line.substring(0, line.length() - 1) + " {";
+        int found = source.indexOf(due, at);
+        if (found < 0) {
+          CHECK.say("the class has not, or not at this place: " + due);
+        }
+        at = Math.max(at, found);
+        lines++;
+      }
+    }
+    CHECK.due("lines of the face", lines, FACE.length + 4);
+    headings(document, source);
+  }
+
+  /** "Ahead of the calls a, b, c the interface says: ---- words." */
+  private static void headings(Document document, String source) {
+    int headings = 0;
+    for (String line : document.section("Terms").split("\n")) {
+      Matcher said = HEADING.matcher(line);
+      if (said.matches()) {
+        headings++;
+        int from = source.indexOf("// " + said.group(2) + " public ");
+        int to = source.indexOf("// ----", from + 1);
+        String part = from < 0 || to < 0 ? "" : source.substring(from, to);
+        StringBuilder names = new StringBuilder();
+        for (Matcher name = NAME.matcher(part); name.find();) {
+          names.append(names.length() == 0 ? "" : ", ").append(name.group(1));
+        }
+        if (!names.toString().equals(said.group(1))) {
+          CHECK.say("behind " + said.group(2) + " stand " + names + ", due is " + said.group(1));
+        }
+      }
+    }
+    CHECK.due("headings of the face", headings, 6);
   }
 }

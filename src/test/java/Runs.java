@@ -87,8 +87,8 @@ final class Runs {
     if (below(60) == 0) {
       return wild();
     }
-    boolean isBranch = index == 0 && "branch entry append join fork merge drop holder slowest cause latest mean wouldCut"
-        .concat(" age write common").contains(name) || index == 1 && (name.equals("move") || name.equals("common"));
+    boolean isBranch = index == 0 && "branch entry append join fork merge drop holder slowest cause latest mean"
+        .concat(" wouldCut age write common").contains(name) || index == 1 && (name.equals("move") || name.equals("common"));
     if (isBranch) {
       return below(20) == 0 ? below(5) : oneThatIs("branch", 4);
     }
